@@ -28,8 +28,8 @@ public final class AfterYou {
     private static final int IMAGES = 2;
 
     private final World world = new World();
+    /** Nothing, where none was kept. */
     private final World[] images = new World[IMAGES];
-    private final boolean[] kept = new boolean[IMAGES];
     private final Book book = new Book();
     /** A book of one ITEM, for what a stranger learns. */
     private final Book single = new Book();
@@ -46,9 +46,6 @@ public final class AfterYou {
     private int fulls = 0;
 
     public AfterYou() {
-        for (int i = 0; i < IMAGES; i++) {
-            images[i] = new World();
-        }
     }
 
     // ---- people, a book
@@ -390,8 +387,9 @@ public final class AfterYou {
         if (!within(i, 0, IMAGES - 1)) {
             return bad(BAD);
         }
-        images[i].copy(world);
-        kept[i] = true;
+        World kept = images[i] == null ? new World() : images[i];
+        kept.copy(world);
+        images[i] = kept;
         return 1;
     }
 
@@ -399,10 +397,11 @@ public final class AfterYou {
         if (!within(i, 0, IMAGES - 1)) {
             return bad(BAD);
         }
-        if (!kept[i]) {
+        World kept = images[i];
+        if (kept == null) {
             return no(NO);
         }
-        world.copy(images[i]);
+        world.copy(kept);
         book.read(world.text, world.letters);
         return 1;
     }
@@ -1002,7 +1001,8 @@ public final class AfterYou {
         /** The ROUND in which one goes, by bits of the ITEMS that name somebody. NONE: NEVER. */
         int settledIn(int bits) {
             for (int k = 1; k <= MOST_ROUNDS; k++) {
-                int counting = Integer.lowestOneBit(bits & asked[k]);
+                int naming = bits & asked[k];
+                int counting = naming & -naming;
                 if (counting != 0 && (counting & againBits) == 0) {
                     return k;
                 }
@@ -1012,7 +1012,12 @@ public final class AfterYou {
 
         /** The ITEM that counts in a ROUND in which one goes. */
         int countingItem(int bits, int settledRound) {
-            return Integer.numberOfTrailingZeros(bits & asked[settledRound]);
+            for (int item = 0; item < size; item++) {
+                if ((bits & asked[settledRound] & 1 << item) != 0) {
+                    return item;
+                }
+            }
+            return NONE;
         }
 
         int named(int item, People people, Bows bows, int first, int second) {
@@ -1179,9 +1184,9 @@ public final class AfterYou {
         }
 
         private void swap(int i, int j) {
-            int kept = order[i];
+            int held = order[i];
             order[i] = order[j];
-            order[j] = kept;
+            order[j] = held;
         }
     }
 

@@ -182,7 +182,7 @@ public final class AfterYouTest {
         for (String text : fine) {
             due("fault of '" + text + "'", write(new AfterYou(), text).fault(), -1);
         }
-        Object[][] faulty = {{";", 0}, {"older", 5}, {"older ", 6}, {"older 5", 7}, {"olde", 0}, {"olderr;", 0},
+        Object[][] faulty = {{";", 0}, {"older", 5}, {"older ", 6}, {"older 5", 7}, {"olde", 0}, {"olderr;", 0}, {"olderz;", 0}, {"aolder;", 0}, {"older`", 5}, {"older{", 5}, {"older/", 5}, {"older:", 5},
             {"older 100;", 6}, {"older 1 2;", 8}, {"older 0;", 6}, {"older 00;", 6}, {"from 0 older;", 5},
             {"from 10 older;", 5}, {"from", 4}, {"from 1", 6}, {"from 1 ", 7}, {"from older;", 5}, {"again;", 5},
             {"again again older;", 6}, {"again from 1 older;", 6}, {"from 1 from 2 older;", 7}, {"5;", 0},
@@ -407,6 +407,14 @@ public final class AfterYouTest {
         due("0 first", z.soonest(0), 0);
         due("2 then", z.soonest(1), 2);
         due("1 last", z.soonest(2), 1);
+        // 0 and 2 never settle, and who is left of 0 and 1 is 0: so 1 and 2 come ahead of him.
+        AfterYou y = plain(10, 20, 30);
+        write(y, "again older 15;older;");
+        y.come(0);
+        y.come(1);
+        y.come(2);
+        due("0 last", y.soonest(-1), 5);
+        due("0 last", y.soonest(0) * 100 + y.soonest(1) * 10 + y.soonest(2), 120);
     }
 
     private static void avoid() {
@@ -622,8 +630,12 @@ public final class AfterYouTest {
         due("as second", x.have(0, 1, false), 3);
         rewrite(x, "unladen 4;");
         due("none is needed", x.have(1, 0, true), 0);
+        rewrite(x, "laden 2;");
+        due("his load counts to nothing", x.have(1, 0, true), -1);
+        x.person(0, 1, 7, 0);
+        due("nine", x.have(1, 2, true), 9);
         due("alike", x.have(0, 0, true), -2);
-        due("nobody", x.have(0, 2, true), -2);
+        due("nobody", x.have(0, 3, true), -2);
         due("nobody", x.have(-1, 0, false), -2);
         write(x, "x");
         due("bad ahead of no", x.have(0, 0, true), -2);
@@ -679,6 +691,10 @@ public final class AfterYouTest {
         due("both", x.strikes(), 5);
         rewrite(x, "older;");
         due("1 and 2 are alike", x.strikes(), -1);
+        rewrite(x, "from 2 again first;from 2 second;again first;second;");
+        due("of like ones the least bits", x.strikes(), 1);
+        rewrite(x, "from 2 again first;from 2 again first;from 2 second;again first;second;");
+        due("the fewest, not the least bits", x.strikes(), 8);
         write(x, "x");
         due("no", x.strikes(), -3);
         refusals("strikes", x, 0, 1, 0);
