@@ -559,6 +559,21 @@ public final class Bounds01To09Test extends Checks {
         faulty("olderyounger;", 0);
     }
 
+    static void p08_eachLetterOfAWordCounts() {
+        faulty("blder;", 0);
+        faulty("oldes;", 0);
+        faulty("older;zgain older;", 6);
+        faulty("older;agaim older;", 6);
+    }
+
+    static void p08_lowestAndHighestLetter() {
+        faulty("oldera;", 0);
+        faulty("olderz;", 0);
+        faulty("zolder;", 0);
+        faulty("older a;", 6);
+        faulty("older z;", 6);
+    }
+
     static void p08_theLongestWord() {
         faulty(times(160, "a"), 0);
         faulty("older;" + times(154, "z"), 6);

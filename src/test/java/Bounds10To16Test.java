@@ -525,6 +525,50 @@ public final class Bounds10To16Test extends Checks {
         asksOnly(x, "0", 0, () -> x.soonest(2));
     }
 
+    /** AGE and LOAD of six by whose courtesies but one order takes 11 MINUTES: as they stand here. */
+    private static final int[][] SIX = {{3, 7}, {1, 5}, {2, 3}, {0, 5}, {3, 0}, {1, 0}};
+
+    private static void onlyOrder(int... order) {
+        AfterYou x = new AfterYou();
+        for (int person = 0; person < 6; person++) {
+            for (int i = 0; i < 6; i++) {
+                if (order[i] == person) {
+                    x.person(0, SIX[i][0], SIX[i][1], 0);
+                }
+            }
+        }
+        queue(write(x, "younger 3;again unladen 3;first;"), 0, 1, 2, 3, 4, 5);
+        due("minutes", x.soonest(NONE), 11);
+        for (int i = 0; i < 6; i++) {
+            due("of " + java.util.Arrays.toString(order) + " the " + i + "-th", x.soonest(i), order[i]);
+        }
+    }
+
+    static void p15_theFirstOfAllOrdersOfSix() {
+        onlyOrder(0, 1, 2, 3, 4, 5);
+    }
+
+    static void p15_theLastOfAllOrdersOfSix() {
+        onlyOrder(5, 4, 3, 2, 1, 0);
+    }
+
+    static void p15_eachOfAllOrdersOfSix() {
+        int orders = 0;
+        for (int code = 0; code < 46656; code++) {
+            int[] order = new int[6];
+            int seen = 0;
+            for (int i = 0, rest = code; i < 6; i++, rest /= 6) {
+                order[i] = rest % 6;
+                seen |= 1 << order[i];
+            }
+            if (seen == 63) {
+                onlyOrder(order);
+                orders++;
+            }
+        }
+        due("orders", orders, 720);
+    }
+
     static void p15_allShut() {
         AfterYou x = queue(plain(1, 2), 0, 1);
         no(x, "minutes", FAR_NO, () -> x.soonest(NONE));
