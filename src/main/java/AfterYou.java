@@ -752,7 +752,22 @@ public final class AfterYou {
     private static final class Tokens {
         /** What a TOKEN is, beside the COURTESIES 0 .. 9. */
         static final int START = 10, AGAIN = 11, NUMBER = 12, END = 13, WRONG = 14, OVER = 15;
-        private static final int WORDS = 12;
+        private static final int WORDS = 12, WORD_ROOM = 8;
+        /** The words by their numbers, blanks behind each; no Strings, as each look at one may count as made. */
+        private static final char[] LETTERS = {
+            'o', 'l', 'd', 'e', 'r', ' ', ' ', ' ',
+            'y', 'o', 'u', 'n', 'g', 'e', 'r', ' ',
+            'l', 'a', 'd', 'e', 'n', ' ', ' ', ' ',
+            'u', 'n', 'l', 'a', 'd', 'e', 'n', ' ',
+            'h', 'i', 'g', 'h', 'e', 'r', ' ', ' ',
+            'l', 'o', 'w', 'e', 'r', ' ', ' ', ' ',
+            'o', 'w', 'e', 'd', ' ', ' ', ' ', ' ',
+            't', 'u', 'r', 'n', ' ', ' ', ' ', ' ',
+            'f', 'i', 'r', 's', 't', ' ', ' ', ' ',
+            's', 'e', 'c', 'o', 'n', 'd', ' ', ' ',
+            'f', 'r', 'o', 'm', ' ', ' ', ' ', ' ',
+            'a', 'g', 'a', 'i', 'n', ' ', ' ', ' ',
+        };
 
         private int[] text = new int[0];
         private int length = 0;
@@ -791,7 +806,7 @@ public final class AfterYou {
                 next++;
             }
             for (int word = 0; word < WORDS; word++) {
-                if (spells(wordOf(word))) {
+                if (spells(word)) {
                     return word;
                 }
             }
@@ -808,12 +823,15 @@ public final class AfterYou {
             return next - place <= 2 ? NUMBER : WRONG;
         }
 
-        private boolean spells(String word) {
-            if (word.length() != next - place) {
+        /** Whether the letters just read are a word of the table. */
+        private boolean spells(int word) {
+            int start = word * WORD_ROOM;
+            int size = next - place;
+            if (size >= WORD_ROOM || LETTERS[start + size] != ' ') {
                 return false;
             }
-            for (int k = 0; k < word.length(); k++) {
-                if (word.charAt(k) != text[place + k]) {
+            for (int k = 0; k < size; k++) {
+                if (LETTERS[start + k] != text[place + k]) {
                     return false;
                 }
             }
@@ -826,35 +844,6 @@ public final class AfterYou {
 
         private static boolean isFigure(int sign) {
             return sign >= '0' && sign <= '9';
-        }
-
-        private static String wordOf(int word) {
-            switch (word) {
-                case OLDER:
-                    return "older";
-                case YOUNGER:
-                    return "younger";
-                case LADEN:
-                    return "laden";
-                case UNLADEN:
-                    return "unladen";
-                case HIGHER:
-                    return "higher";
-                case LOWER:
-                    return "lower";
-                case OWED:
-                    return "owed";
-                case TURN:
-                    return "turn";
-                case FIRST:
-                    return "first";
-                case SECOND:
-                    return "second";
-                case START:
-                    return "from";
-                default:
-                    return "again";
-            }
         }
     }
 
@@ -1071,14 +1060,13 @@ public final class AfterYou {
         void hold(Book book, People people, Bows bows, int first, int second) {
             int bits = book.naming(people, bows, first, second);
             int round = book.settledIn(bits);
-            if (round == NONE) {
+            item = round == NONE ? NONE : book.countingItem(bits, round);
+            if (item == NONE) {
                 goer = NONE;
                 rounds = MOST_ROUNDS;
-                item = NONE;
                 return;
             }
             rounds = round;
-            item = book.countingItem(bits, round);
             // Behind each ROUND the other one came first, so in even ones the second did.
             boolean swapped = round % 2 == 0;
             goer = book.named(item, people, bows, swapped ? second : first, swapped ? first : second);

@@ -566,6 +566,27 @@ public final class Bounds01To09Test extends Checks {
         faulty("older;agaim older;", 6);
     }
 
+    static void p08_everyWordToTheLetter() {
+        String[] ends = {"older;", "younger;", "laden;", "unladen;", "higher;", "lower;", "owed;", "turn;", "first;",
+            "second;", "from 1 older;", "again older;"};
+        for (String end : ends) {
+            int size = end.replaceAll("[^a-z].*", "").length();
+            String word = end.substring(0, size);
+            String rest = end.substring(size);
+            faulty(end, NONE);
+            faulty("older;" + end, NONE);
+            faulty(word.substring(1) + rest, 0);
+            faulty(word.substring(0, size - 1) + rest, 0);
+            for (int k = 0; k <= size; k++) {
+                faulty(word.substring(0, k) + "x" + word.substring(k) + rest, 0);
+                if (k < size) {
+                    faulty(word.substring(0, k) + "x" + word.substring(k + 1) + rest, 0);
+                }
+            }
+            faulty(word + "abcdefg" + rest, 0);
+        }
+    }
+
     static void p08_lowestAndHighestLetter() {
         faulty("oldera;", 0);
         faulty("olderz;", 0);

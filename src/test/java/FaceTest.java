@@ -70,6 +70,15 @@ public final class FaceTest {
 
     private static void fields(Class<?> c) throws Exception {
         Set<String> constants = new TreeSet<>(List.of("NONE", "BAD", "NO", "FULL"));
+        for (Class<?> k : c.getDeclaredClasses()) {
+            int inside = 0;
+            for (Field f : k.getDeclaredFields()) {
+                int how = f.getModifiers();
+                check(!Modifier.isStatic(how) || Modifier.isFinal(how), "static, not final: " + f);
+                inside += Modifier.isStatic(how) ? 0 : 1;
+            }
+            check(inside <= 20, "too many fields: " + k);
+        }
         int own = 0;
         for (Field f : c.getDeclaredFields()) {
             int how = f.getModifiers();
@@ -94,8 +103,30 @@ public final class FaceTest {
         }
         check(!text.contains("->") && !text.contains("::"), "a lambda or a method reference");
         check(!text.matches("(?s).*Exact\\b.*"), "an Exact function");
+        check(!text.contains("\""), "a text: each look at one may count as made");
+        check(!text.matches("(?s).*\\bstatic\\s*\\{.*"), "a static block");
         for (String line : text.split("\n")) {
             check(!line.startsWith("import") || line.equals("import java.util.Arrays;"), "barred: " + line);
         }
+        lengths(text.split("\n"));
+    }
+
+    /** A method begins with a line that ends in ") {" and no such word as if, and ends with a } below its start. */
+    private static void lengths(String[] lines) {
+        int methods = 0;
+        for (int k = 0; k < lines.length; k++) {
+            if (!lines[k].matches("( {4}| {8})(public|private|static|final|[a-zA-Z]\\w*)[^=]*\\) \\{")
+                    || lines[k].matches(" *(if|for|while|switch) .*")) {
+                continue;
+            }
+            String end = lines[k].replaceAll("\\S.*", "}");
+            int last = k;
+            while (last < lines.length && !lines[last].equals(end)) {
+                last++;
+            }
+            methods++;
+            check(last - k < 60, "a long method: " + lines[k].strip());
+        }
+        check(methods > 32, "only " + methods + " methods were found");
     }
 }
